@@ -1477,8 +1477,8 @@ public final class WhalePost {
                     Way way = post.way[k];
                     boolean tooFar = kind == CALF && way.one != from && way.other != from;
                     if (!tooFar && !now.isClosed(k)) {
-                        sooner |= goes(kind, way, way.one, way.other);
-                        sooner |= goes(kind, way, way.other, way.one);
+                        // Only one end of a way can come sooner by the other.
+                        sooner = goes(kind, way, way.one, way.other) || goes(kind, way, way.other, way.one) || sooner;
                     }
                 }
             }

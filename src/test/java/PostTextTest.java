@@ -140,6 +140,12 @@ public final class PostTextTest {
         fault("^foo", 1);
         fault("^12", 1);
         fault("^Post", 1);
+        fault("^host notes 2", 1);
+        fault("^pos", 1);
+        fault("^posts", 1);
+        fault("post ^votes 2", 1);
+        fault("post notes ^.", 1);
+        fault("^.", 1);
         fault("post^", 1);
         fault("post ^errors 0", 1);
         fault("post notes ^two", 1);
@@ -149,7 +155,15 @@ public final class PostTextTest {
         fault("post notes 2 errors 0 drift 0 slip 0 ^island a ab", 1);
         fault(Check.HEAD + "^isle a ab", 1);
         fault(Check.HEAD + "^7", 1);
+        fault(Check.HEAD + "^.", 1);
         fault(Check.HEAD + "island ^7 ab", 1);
+        fault(Check.HEAD + "island ^.", 1);
+        fault(Check.HEAD + "island a ^.", 1);
+        fault(Check.HEAD + "island a ab;way ^.", 1);
+        fault(Check.HEAD + "island a ab;way a ^.", 1);
+        fault(Check.HEAD + "island a ab;whale w ^.", 1);
+        fault(Check.HEAD + "island a ab;whale w ^now", 1);
+        fault(Check.HEAD + "island a ab;island b ba;way a b ^rays 9", 1);
         fault(Check.HEAD + "island ^box ab", 1);
         fault(Check.HEAD + "island ^post ab", 1);
         fault(Check.HEAD + "island ^island ab", 1);

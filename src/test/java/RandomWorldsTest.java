@@ -1,3 +1,4 @@
+import java.math.BigInteger;
 import java.util.List;
 import java.util.Random;
 
@@ -128,7 +129,8 @@ public final class RandomWorldsTest {
             long lower = x.registered(b, true);
             long lostBoth = lost(surest) * (second == -2 ? 100 : lost(second));
             Check.due(at + "registered(" + b + ") is so", upper * 10000, lower * (10000 - lostBoth));
-            Check.due(at + "registered(" + b + ") is lowest", java.math.BigInteger.valueOf(upper).gcd(java.math.BigInteger.valueOf(lower)).longValue(), 1);
+            BigInteger common = BigInteger.valueOf(upper).gcd(BigInteger.valueOf(lower));
+            Check.due(at + "registered(" + b + ") is lowest", common.longValue(), 1);
         }
     }
 

@@ -111,6 +111,9 @@ public final class SongsTest {
         // The songs are bbc, aab, ccc now.
         Check.granted(x, "near(0) in year 20", x.near(0), 1);
         Check.granted(x, "asNear(0) in year 20", x.asNear(0), 2);
+        Check.granted(x, "near(1) behind another box's", x.near(1), 1);
+        Check.granted(x, "asNear(0) behind another box's", x.asNear(0), 2);
+        Check.granted(x, "asNear(2) behind another box's", x.asNear(2), 1);
         Check.refused(x, "near(3)", x.near(3), 1);
         Check.refused(x, "near(-1)", x.near(-1), 1);
         Check.refused(x, "asNear(3)", x.asNear(3), 1);

@@ -163,6 +163,10 @@ public final class WhalesTest {
 
     private static void matchTies() {
         matched(Check.posted(CROWD), 2, 10, 0, 1, -2);
+        WhalePost alone = Check.posted(CROWD);
+        Check.granted(alone, "matchDays() without match()", alone.matchDays(), 10);
+        alone = Check.posted(CROWD);
+        Check.granted(alone, "matchOf(1) without match()", alone.matchOf(1), 1);
         String one = TWO + "whale u cow at a keeps 0 lost 0;box p from a to b weighs 1 day 0;box q from a to b weighs 1 day 0";
         matched(Check.posted(one), 1, 5, 0, -2);
         // The later box is sooner: the least sum counts ahead of the order.
@@ -170,7 +174,11 @@ public final class WhalesTest {
         // The calf can take p alone, so that the cow is left for q although it is sooner with p.
         String more = TWO + "whale u cow at a keeps 0 lost 0;whale c calf at a keeps 90 lost 0;"
             + "box p from a to b weighs 1 day 0;box q from a to b weighs 9 day 0";
-        matched(Check.posted(more), 2, 100, 1, 0);
+        WhalePost again = Check.posted(more);
+        matched(again, 2, 100, 1, 0);
+        // Nothing of the box that is gone is left in the next POST.
+        Check.tell(again, more.substring(0, more.indexOf(";box q")));
+        matched(again, 1, 5, 0);
     }
 
     private static void matched(WhalePost x, int count, int days, int... whales) {
@@ -212,6 +220,15 @@ public final class WhalesTest {
         Check.granted(same, "meet(0, 0, 1, 1), never under way", same.meet(0, 0, 1, 1), -2);
         WhalePost along = Check.posted(whales + "box p from a to b weighs 1 day 0;box r from a to b weighs 1 day 5");
         Check.granted(along, "meet(0, 0, 1, 1), both go along", along.meet(0, 0, 1, 1), -2);
+        String third = whales.replace("way a b", "island c bb;way b c days 5 open 15;way a b");
+        WhalePost past = Check.posted(third + "box p from a to b weighs 1 day 0;box r from b to c weighs 1 day 0");
+        Check.granted(past, "meet(0, 0, 1, 1), r is heard elsewhere", past.meet(0, 0, 1, 1), -2);
+        Check.granted(past, "meet(1, 1, 0, 0), r is heard elsewhere", past.meet(1, 1, 0, 0), -2);
+        WhalePost far = Check.posted(third + "whale k calf at c keeps 0 lost 0;"
+            + "box p from b to a weighs 1 day 0;box r from a to b weighs 1 day 0");
+        Check.granted(far, "meet(0, 1, 1, 0)", far.meet(0, 1, 1, 0), 0);
+        Check.granted(far, "meet(0, 1, 1, 2), a calf can't come to r", far.meet(0, 1, 1, 2), -2);
+        Check.granted(far, "meet(1, 2, 0, 1), a calf can't come to r", far.meet(1, 2, 0, 1), -2);
         WhalePost tuned = Check.posted(whales + "box p from a to b weighs 1 day 0;box r from b to b weighs 1 day 0");
         Check.granted(tuned, "meet(0, 0, 1, 1) as told", tuned.meet(0, 0, 1, 1), -2);
         tuned.tune(1, 0, 0);

@@ -124,7 +124,7 @@ public final class WildCallsTest {
         }
     }
 
-    /** A fault's place is one of the text, and the bytes ahead of it are not its cause: they alone have none ahead of their end. */
+    /** A fault is the first from the left: the bytes ahead of its place, told alone, have none but at their end. */
     private static void breakText(Random random) {
         StringBuilder text = new StringBuilder(new Model(random).text());
         for (int times = random.nextInt(3); times >= 0; times--) {
