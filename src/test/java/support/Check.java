@@ -13,15 +13,26 @@ final class Check {
     static final String HEAD = "post notes 2 errors 0 drift 0 slip 0;";
 
     private static int wrong = 0;
+    private static String test = "";
 
     private Check() {
+    }
+
+    /** The test's name is printed ahead of what is wrong in it. */
+    static void begin(String name) {
+        test = name + ": ";
     }
 
     static void due(String call, long got, long want) {
         if (got != want) {
             wrong++;
-            System.out.println(call + " answered " + got + ", due is " + want);
+            System.out.println(test + call + " answered " + got + ", due is " + want);
         }
+    }
+
+    static void thrown(Throwable thrown) {
+        wrong++;
+        System.out.println(test + "threw " + thrown);
     }
 
     static void due(String call, boolean got, boolean want) {
