@@ -464,6 +464,7 @@ public final class Promises01To05Test {
     private static void promise04NamesThatAreNearlyAlike() {
         good(Check.HEAD + "island a ab;island aa ba;island aaa aa;island b bb;island ba aba;island ab bab;island q abab", 7);
         good(Check.HEAD + "island q ab;island aq ba;island aaq aa;island zq bb;island z aba;island y bab;island pz abab", 7);
+        good(Check.HEAD + "island ca ab;island aa ba;island ea aa;island ga bb;island ia aba;island qa bab;island ya abab", 7);
         fault(Check.HEAD + "island aa ab;way ^a a", 2);
         fault(Check.HEAD + "island q ab;way ^aq q", 2);
         fault(Check.HEAD + "island abcdefgh ab;way ^bcdefgh a", 2);
