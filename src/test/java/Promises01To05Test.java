@@ -449,6 +449,21 @@ public final class Promises01To05Test {
         fault(TWO + "way a b days 1 open 1 ^2", 1);
     }
 
+    private static void promise04TooLongWhereASemicolonIsDue() {
+        fault(Check.HEAD + "island a ab ^abcdefghi", 1);
+        fault(Check.HEAD + "island a ab ^abcdefghi island b ba", 1);
+        fault(TWO + "way a b days 1 open 1 ^12345", 1);
+        fault("post notes 2 errors 0 drift 0 slip 0 ^00000 island a ab", 1);
+    }
+
+    private static void promise04TooLongForEachSortOfToken() {
+        fault("post notes ^00002 errors 0 drift 0 slip 0", 1);
+        fault("post ^notesnote 2", 1);
+        fault(Check.HEAD + "^islandisl a ab", 1);
+        fault(TWO + "way ^aaaaaaaaa b days 1 open 1", 1);
+        fault(TWO + "whale w ^calfcalfc at a keeps 0 lost 0", 1);
+    }
+
     private static void promise04WordOfEightLetters() {
         good(Check.HEAD + "island abcdefgh ab", 1);
         fault(Check.HEAD + "island ^abcdefghi ab", 1);
