@@ -39,9 +39,9 @@ public final class Promises06To15Test {
     }
 
     private static void promise06LeastAndMost() {
-        WhalePost x = Check.posted(TWO + "whale u cow at b keeps 0 lost 0;whale v cow at b keeps 99 lost 99");
-        int[][] want = {{1, 1, 0, 0, 0}, {1, 1, 0, 99, 99}};
-        for (int w = 0; w < 2; w++) {
+        WhalePost x = Check.posted(TWO + "whale u cow at b keeps 0 lost 0;whale v cow at b keeps 99 lost 0;whale w cow at a keeps 0 lost 99");
+        int[][] want = {{1, 1, 0, 0, 0}, {1, 1, 0, 99, 0}, {1, 0, 0, 0, 99}};
+        for (int w = 0; w < 3; w++) {
             for (int what = 0; what < 5; what++) {
                 Check.granted(x, "whale(" + w + ", " + what + ")", x.whale(w, what), want[w][what]);
             }

@@ -311,6 +311,17 @@ public final class Promises16To24Test {
         Check.granted(x, "fresh(2, 2) in year 1", x.fresh(2, 2), 3);
     }
 
+    private static void promise20InAnotherYearThereMayBeFewer() {
+        WhalePost x = Check.posted("post notes 2 errors 0 drift 4 slip 0;island a aaa");
+        // abb, bab and bba; from year 4 on aaa alone, as the song is bbb then.
+        x.years(3);
+        Check.granted(x, "byTurns(3, 2) in year 3", x.byTurns(3, 2), 3);
+        x.years(1);
+        Check.granted(x, "byTurns(3, 2) in year 4", x.byTurns(3, 2), 1);
+        x.years(4);
+        Check.granted(x, "byTurns(3, 2) in year 8, round", x.byTurns(3, 2), 3);
+    }
+
     private static void promise20NothingIsTakenForGood() {
         WhalePost x = Check.posted("post notes 4 errors 0 drift 0 slip 0;island a ab");
         Check.granted(x, "byTurns(5, 1)", x.byTurns(5, 1), 1024);
@@ -389,6 +400,18 @@ public final class Promises16To24Test {
         Check.granted(x, "asNear(0), two farther ones", x.asNear(0), 1);
         x.tune(0, 0, 0);
         Check.granted(x, "asNear(0) as abb", x.asNear(0), 3);
+    }
+
+    private static void promise22ToTheSongsNow() {
+        WhalePost x = Check.posted("post notes 2 errors 0 drift 6 slip 0;island a aaa;island b aab;island c aba;box p from a to a weighs 1 day 0");
+        x.years(5);
+        Check.granted(x, "asNear(0) in year 5", x.asNear(0), 1);
+        x.years(1);
+        // bbb, bba and bab: two of them are two notes from aaa.
+        Check.granted(x, "asNear(0) in year 6", x.asNear(0), 2);
+        Check.granted(x, "near(0) in year 6", x.near(0), 2);
+        x.years(6);
+        Check.granted(x, "asNear(0) in year 12, round", x.asNear(0), 1);
     }
 
     private static void promise22MoreThanErrorsAreToldTheSame() {

@@ -134,11 +134,14 @@ public final class Promises25To34Test {
         for (int i = 5; i >= 0; i--) {
             text.append(";way i").append((char) ('a' + i)).append(" i").append((char) ('b' + i)).append(" days 10 open 15");
         }
-        text.append(";whale w cow at ia keeps 0 lost 0");
+        text.append(";whale w cow at ia keeps 0 lost 0;whale v bull at ia keeps 0 lost 0;whale u old at ia keeps 0 lost 0;whale t calf at ia keeps 0 lost 0");
         WhalePost x = Check.posted(text.toString());
         for (int to = 0; to < 7; to++) {
             Check.granted(x, "arrival(0, 0, " + to + ", 0)", x.arrival(0, 0, to, 0), 10 * to);
             Check.granted(x, "arrival(0, 6, " + to + ", 0)", x.arrival(0, 6, to, 0), 10 * (6 - to));
+            Check.granted(x, "arrival(1, 0, " + to + ", 0)", x.arrival(1, 0, to, 0), 20 * to);
+            Check.granted(x, "arrival(2, 0, " + to + ", 0)", x.arrival(2, 0, to, 0), 10 * to);
+            Check.granted(x, "arrival(3, 0, " + to + ", 0)", x.arrival(3, 0, to, 0), to < 2 ? 10 * to : -2);
         }
     }
 
@@ -248,9 +251,11 @@ public final class Promises25To34Test {
     }
 
     private static void promise26NotIfThereIsNoWayOnWithIt() {
-        WhalePost x = Check.posted(LINE + "whale w cow at a keeps 0 lost 0;box p from b to c weighs 1 day 0");
-        x.close(1, true);
-        Check.granted(x, "brings(0, 0)", x.brings(0, 0), -2);
+        for (int keeps : new int[] {0, 1, 2, 99}) {
+            WhalePost x = Check.posted(LINE + "whale w cow at a keeps " + keeps + " lost 0;box p from b to c weighs 1 day 0");
+            x.close(1, true);
+            Check.granted(x, "brings(0, 0)", x.brings(0, 0), -2);
+        }
     }
 
     private static void promise26ToTheIslandThatHeardIt() {
@@ -268,6 +273,32 @@ public final class Promises25To34Test {
         Check.granted(x, "whale(0, 2)", x.whale(0, 2), 25);
         Check.granted(x, "brings(0, 1), a day ahead", x.brings(0, 1), 50);
         Check.granted(x, "brings(0, 2), a day later", x.brings(0, 2), 51);
+    }
+
+    private static void promise26ABullTwiceAsManyDaysThereAndOn() {
+        for (char at = 'a'; at <= 'c'; at++) {
+            WhalePost x = Check.posted(LINE + "whale w bull at " + at + " keeps 0 lost 0;box p from b to c weighs 1 day 0");
+            int comes = at == 'a' ? 10 : at == 'b' ? 0 : 14;
+            Check.granted(x, "brings(0, 0) from " + at, x.brings(0, 0), comes + 14);
+        }
+    }
+
+    private static void promise26AnOldOneInNoSeasonThereAndOn() {
+        WhalePost x = Check.posted(LINE.replace("open 15", "open 8") + "whale w old at a keeps 0 lost 0;whale v cow at a keeps 0 lost 0;box p from b to c weighs 1 day 0");
+        Check.granted(x, "brings(0, 0)", x.brings(0, 0), 12);
+        Check.granted(x, "brings(1, 0), a cow", x.brings(1, 0), 282);
+    }
+
+    private static void promise26SongsOfUnlikeLengths() {
+        WhalePost x = Check.posted(Check.HEAD + "island a ab;island b abab;island c ababab;way a b days 5 open 15;way b c days 7 open 15;"
+            + "whale u cow at a keeps 0 lost 0;whale v cow at a keeps 0 lost 0;whale w cow at a keeps 0 lost 0;"
+            + "box p from a to b weighs 1 day 0;box q from a to c weighs 1 day 0;box r from a to a weighs 1 day 0");
+        int[] want = {5, 12, 0};
+        for (int w = 0; w < 3; w++) {
+            for (int b = 0; b < 3; b++) {
+                Check.granted(x, "brings(" + w + ", " + b + ")", x.brings(w, b), want[b]);
+            }
+        }
     }
 
     private static void promise26ACalfByOneWayEachTime() {
@@ -347,6 +378,13 @@ public final class Promises25To34Test {
         Check.granted(x, "surest(0)", x.surest(0), 4);
         WhalePost y = Check.posted(fiveWhales(1, 1, 0, 1, 0) + BOX);
         Check.granted(y, "surest(0)", y.surest(0), 2);
+    }
+
+    private static void promise28WhateverTheDays() {
+        // The surest keeps it longest and comes from afar.
+        WhalePost x = Check.posted(TWO + "whale u cow at a keeps 0 lost 9;whale v bull at b keeps 99 lost 3;whale w cow at a keeps 1 lost 5;" + BOX);
+        Check.granted(x, "surest(0)", x.surest(0), 1);
+        Check.granted(x, "soonest(0)", x.soonest(0), 0);
     }
 
     private static void promise28OfThoseThatCan() {
@@ -439,6 +477,12 @@ public final class Promises25To34Test {
         likely(3, 4, 50, 50);
         likely(4997, 5000, 9, 3, 7, 2, 8);
         likely(9991, 10000, 3, 9, 3);
+    }
+
+    private static void promise30WhateverTheyKeep() {
+        WhalePost x = Check.posted(TWO + "whale u cow at a keeps 0 lost 9;whale v cow at a keeps 99 lost 3;whale w cow at a keeps 50 lost 7;" + BOX);
+        Check.granted(x, "registered(0, false)", x.registered(0, false), 9979);
+        Check.granted(x, "registered(0, true)", x.registered(0, true), 10000);
     }
 
     private static void promise30InLowestTerms() {

@@ -482,6 +482,25 @@ public final class Promises35To41Test {
         order(x, 2, 2, 0, 1);
     }
 
+    private static void promise40ClosedWays() {
+        WhalePost x = Check.posted(LINE + "way a c days 50 open 1");
+        order(x, 0, 0, 1, 2);
+        x.close(0, true);
+        order(x, 0, 0, 2, 1);
+        x.close(2, true);
+        Check.refused(x, "roundAt(0, 0)", x.roundAt(0, 0), 6);
+    }
+
+    private static void promise40WhateverTheYear() {
+        WhalePost x = Check.posted(LINE + "way a c days 50 open 1");
+        for (int year = 1; year <= 8; year++) {
+            x.years(1);
+            order(x, 0, 0, 1, 2);
+            Check.granted(x, "round(0)", x.round(0), 12);
+            Check.granted(x, "watch(0, 1)", x.watch(0, 1), 3);
+        }
+    }
+
     private static void promise40AskedByItselfBehindAnother() {
         WhalePost x = Check.posted(LINE + "way a c days 50 open 1");
         Check.granted(x, "round(0)", x.round(0), 12);

@@ -571,6 +571,18 @@ public final class Promises42To51Test {
         Check.due("size(3)", y.size(3), 0);
     }
 
+    private static void promise50EachRowByItself() {
+        String[] rows = {"", ";island c aa", ";island c aa;way a c days 1 open 1", ";whale w cow at a keeps 0 lost 0",
+            ";box p from a to b weighs 1 day 0", ";whale w cow at a keeps 0 lost 0;spout w a day 0;spout w a day 1"};
+        int[][] want = {{2, 1, 0, 0, 0}, {3, 1, 0, 0, 0}, {3, 2, 0, 0, 0}, {2, 1, 1, 0, 0}, {2, 1, 0, 1, 0}, {2, 1, 1, 0, 2}};
+        for (int k = 0; k < rows.length; k++) {
+            WhalePost x = Check.posted(TWO.substring(0, TWO.length() - 1) + rows[k]);
+            for (int what = 4; what <= 8; what++) {
+                Check.due("size(" + what + ") with " + rows[k], x.size(what), want[k][what - 4]);
+            }
+        }
+    }
+
     private static void promise50BytesOfTheTape() {
         WhalePost x = new WhalePost();
         for (int k = 1; k <= 50; k++) {
@@ -626,15 +638,35 @@ public final class Promises42To51Test {
     }
 
     private static void promise51MinusTwoIsNoRefusal() {
-        WhalePost x = Check.posted(Check.WORLD);
-        x.undo();
-        Check.granted(x, "brings(0, 1)", x.brings(0, 1), -2);
-        x.undo();
-        Check.granted(x, "way(0, 3)", x.way(0, 3), -2);
-        x.undo();
-        Check.granted(x, "round(0)", x.round(0), -2);
-        x.undo();
-        Check.granted(x, "apart(0, 3)", x.apart(0, 3), -2);
+        WhalePost x = Check.posted(Check.HEAD + "island a ab;island b baa;way a b days 5 open 15;whale u cow at a keeps 0 lost 0;"
+            + "whale v cow at a keeps 0 lost 0;box p from a to b weighs 99 day 0;box q from a to a weighs 1 day 0");
+        x.close(0, true);
+        x.tune(1, 0, 1);
+        minusTwo(x, "box(0, 4)", troubled(x).box(0, 4));
+        minusTwo(x, "heard(1)", troubled(x).heard(1));
+        minusTwo(x, "way(0, 1)", troubled(x).way(0, 1));
+        minusTwo(x, "sets(0, 0, 0)", troubled(x).sets(0, 0, 0));
+        minusTwo(x, "apart(0, 1)", troubled(x).apart(0, 1));
+        minusTwo(x, "bear()", troubled(x).bear());
+        minusTwo(x, "fresh(2, 5)", troubled(x).fresh(2, 5));
+        minusTwo(x, "heardIn(1, 9)", troubled(x).heardIn(1, 9));
+        minusTwo(x, "strange(0)", troubled(x).strange(0));
+        minusTwo(x, "arrival(0, 0, 1, 0)", troubled(x).arrival(0, 0, 1, 0));
+        minusTwo(x, "brings(0, 0)", troubled(x).brings(0, 0));
+        minusTwo(x, "soonest(0)", troubled(x).soonest(0));
+        minusTwo(x, "surest(0)", troubled(x).surest(0));
+        minusTwo(x, "matchOf(0)", troubled(x).matchOf(0));
+        minusTwo(x, "meet(0, 0, 1, 1)", troubled(x).meet(0, 0, 1, 1));
+        minusTwo(x, "round(0)", troubled(x).round(0));
+    }
+
+    private static WhalePost troubled(WhalePost x) {
+        Check.refused(x, "length(-1)", x.length(-1), 1);
+        return x;
+    }
+
+    private static void minusTwo(WhalePost x, String call, int got) {
+        Check.granted(x, call, got, -2);
     }
 
     private static void promise51EveryGrantedCallClearsIt() {
