@@ -1707,32 +1707,31 @@ public final class WhalePost {
             this.post = post;
         }
 
+        /** The fewest ways that part two islands are all those between some islands with the one and the rest. */
         int fewestToWatch(int i, int j, int closed) {
             int best = NOBODY;
             int fewest = WAY_ROOM + 1;
-            for (int watched = 0; watched < 1 << post.ways; watched++) {
-                int count = Integer.bitCount(watched);
-                if ((watched & closed) == 0 && count < fewest && !leads(i, j, closed | watched)) {
-                    best = watched;
-                    fewest = count;
+            for (int side = 0; side < 1 << post.islands; side++) {
+                if ((side >> i & 1) != 0 && (side >> j & 1) == 0) {
+                    int watched = waysOutOf(side) & ~closed;
+                    int count = Integer.bitCount(watched);
+                    if (count < fewest || count == fewest && watched < best) {
+                        best = watched;
+                        fewest = count;
+                    }
                 }
             }
             return best;
         }
 
-        private boolean leads(int from, int to, int without) {
-            int reached = 1 << from;
-            int before = 0;
-            for (int turn = 0; turn < post.islands && reached != before; turn++) {
-                before = reached;
-                for (int k = 0; k < post.ways; k++) {
-                    int ends = 1 << post.way[k].one | 1 << post.way[k].other;
-                    if ((without >> k & 1) == 0 && (reached & ends) != 0) {
-                        reached |= ends;
-                    }
+        private int waysOutOf(int side) {
+            int bits = 0;
+            for (int k = 0; k < post.ways; k++) {
+                if ((side >> post.way[k].one & 1) != (side >> post.way[k].other & 1)) {
+                    bits |= 1 << k;
                 }
             }
-            return (reached >> to & 1) != 0;
+            return bits;
         }
 
         /** The days of the round from an island; its order is kept. */
